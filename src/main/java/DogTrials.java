@@ -468,7 +468,7 @@ public final class DogTrials {
         }
 
         boolean isWord(String word) {
-            return kind == WORD && isPiece(word, 0, word.length());
+            return among(word) == 0;
         }
 
         boolean isNoKeyword() {
@@ -479,20 +479,25 @@ public final class DogTrials {
             return behind - start > MOST_LETTERS;
         }
 
-        /** Which one of the words, parted by single blanks, the TOKEN is. */
+        /** Which one of the words, parted by single blanks, the TOKEN is; NONE: it is none of them. */
         int among(String words) {
             if (kind != WORD) {
                 return NONE;
             }
             int which = 0;
-            int from = 0;
+            int at = start;
+            boolean isSame = true;
             for (int i = 0; i <= words.length(); i++) {
-                if (i == words.length() || words.charAt(i) == ' ') {
-                    if (isPiece(words, from, i)) {
-                        return which;
-                    }
+                char c = i < words.length() ? words.charAt(i) : ' ';
+                if (c != ' ') {
+                    isSame = isSame && at < behind && bytes[at] == c;
+                    at++;
+                } else if (isSame && at == behind) {
+                    return which;
+                } else {
                     which++;
-                    from = i + 1;
+                    at = start;
+                    isSame = true;
                 }
             }
             return NONE;
@@ -547,18 +552,6 @@ public final class DogTrials {
                 value = value * 10 + (bytes[i] - '0');
             }
             return value;
-        }
-
-        private boolean isPiece(String words, int from, int to) {
-            if (to - from != behind - start) {
-                return false;
-            }
-            for (int i = from; i < to; i++) {
-                if (bytes[start + i - from] != words.charAt(i)) {
-                    return false;
-                }
-            }
-            return true;
         }
 
         private static int kindOf(int b) {
