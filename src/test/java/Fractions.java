@@ -65,7 +65,7 @@ final class Fractions {
         return parts[0].longValueExact() - (parts[1].signum() < 0 ? 1 : 0);
     }
 
-    private static boolean[] group(int[][] totals, int judge) {
+    static boolean[] group(int[][] totals, int judge) {
         boolean[] in = new boolean[totals[0].length];
         in[judge] = true;
         for (int round = 0; round < in.length; round++) {
