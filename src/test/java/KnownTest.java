@@ -155,6 +155,9 @@ final class KnownTest {
         }
         Check.due("the 41st", x.protest(0), -1);
         Check.due("PROTESTS", x.count(8), 40);
+        Check.due("the last one", x.decide(39, 3, 7) ? 1 : 0, 1);
+        Check.due("TOTAL with 40", x.told(0, 0, 1), 37);
+        Check.due("it counts with 40", x.told(0, 3, 1), 1);
     }
 
     private static void added() {
