@@ -8,6 +8,11 @@ import java.util.Random;
 
 /** Any calls with any numbers, in any state: nothing is thrown but what the face names, and like calls answer alike. */
 final class AnyCallTest {
+    private static final int MOST_CALLS = 512;
+    /** 6 JUDGES, 12 PACKETS, 24 DOGS. */
+    private static final int MOST_GROUND = 42;
+    /** A text of 100 bytes, and a call of five numbers, each of which may be asked of count(). */
+    private static final int MOST_AT_ONCE = 11;
     private static final int[] EDGES = {Integer.MIN_VALUE, -1000001, -51, -50, -2, -1, 0, 1, 2, 3, 4, 5, 6, 7, 8, 9, 10, 11,
         12, 17, 18, 19, 20, 23, 24, 39, 40, 50, 51, 119, 120, 199, 200, 600, 601, 998, 999, 1000, 1 << 30,
         Integer.MAX_VALUE - 9, Integer.MAX_VALUE};
@@ -17,6 +22,7 @@ final class AnyCallTest {
 
     private final Random random;
     private final Method[] methods;
+    private int calls = 0;
 
     private AnyCallTest(long seed) {
         random = new Random(seed);
@@ -43,9 +49,12 @@ final class AnyCallTest {
         DogTrials x = random.nextBoolean() ? Check.ground(random.nextInt(7), random.nextInt(13), random.nextInt(25))
             : new DogTrials();
         List<String> answers = new ArrayList<>();
-        for (int i = 0; i < 460; i++) {
+        calls = MOST_GROUND;
+        while (calls <= MOST_CALLS - MOST_AT_ONCE) {
             if (random.nextInt(8) == 0) {
-                Check.feed(x, TEXTS[random.nextInt(TEXTS.length)]);
+                String text = TEXTS[random.nextInt(TEXTS.length)];
+                calls += (text.length() + 19) / 20;
+                Check.feed(x, text);
             }
             answers.add(call(x, methods[random.nextInt(methods.length)]));
         }
@@ -59,6 +68,7 @@ final class AnyCallTest {
             case 1:
                 return random.nextInt(3);
             case 2:
+                calls++;
                 return x.count(random.nextInt(11)) - random.nextInt(2);
             default:
                 return random.nextInt(12);
@@ -71,6 +81,7 @@ final class AnyCallTest {
             boolean isLong = m.getParameterTypes()[i] == long.class;
             given[i] = isLong ? (Object) random.nextLong() : (Object) number(x);
         }
+        calls++;
         String what = m.getName() + Arrays.toString(given);
         try {
             return what + " " + m.invoke(x, given);

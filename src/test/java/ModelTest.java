@@ -3,9 +3,12 @@ import java.util.List;
 import java.util.NoSuchElementException;
 import java.util.Random;
 
-/** Runs of 512 calls, most of them fitting, some not, on DogTrials and on the Model: all answers must be alike. */
+/** Runs of up to 512 calls, most of them fitting, some not, on DogTrials and on the Model: all answers must be alike. */
 final class ModelTest {
     private static final int ROUNDS = 300;
+    private static final int MOST_CALLS = 512;
+    /** A text of 600 bytes, the call that takes it, and fault(). */
+    private static final int MOST_AT_ONCE = 32;
     private static final String[] PARTS = {"outrun", "lift", "fetch", "drive", "pen", "shed", "single", "abcdefgh"};
     private static final String[] FAULTS = {"cross", "stop", "grip", "pen", "miss", "slow", "turn", "a", "bb", "late"};
     private static final String[] PIECES = {"part", "fault", "off", "out", "tie", "best", "limit", "time", "retired",
@@ -17,6 +20,7 @@ final class ModelTest {
     private final Model m = new Model();
     private final StringBuilder story = new StringBuilder();
     private int partCount = 3;
+    private int calls = 0;
 
     private ModelTest(long seed) {
         random = new Random(seed);
@@ -45,6 +49,7 @@ final class ModelTest {
     }
 
     private boolean alike(String what, Call real, Call due) {
+        calls++;
         String got = outcome(real);
         String want = outcome(due);
         story.append(what).append(" -> ").append(got).append('\n');
@@ -68,7 +73,7 @@ final class ModelTest {
             goesOn &= newDog();
         }
         goesOn &= tell(rulesText(), -1);
-        for (int i = 0; i < 480 && goesOn; i++) {
+        while (calls <= MOST_CALLS - MOST_AT_ONCE - 11 && goesOn) {
             goesOn = once(seed);
         }
         for (int what = 0; what < 11; what++) {
@@ -93,20 +98,20 @@ final class ModelTest {
     }
 
     private boolean once(int seed) {
-        int calls = random.nextInt(100);
-        if (calls < 3) {
+        int kind = random.nextInt(100);
+        if (kind < 3) {
             return newDog();
         }
-        if (calls < 6) {
+        if (kind < 6) {
             return tell(mutated(rulesText()), -1);
         }
-        if (calls < 9) {
+        if (kind < 9) {
             int r = below(m.count(4));
             int d = random.nextInt(12);
             int j = below(m.count(1));
             return alike("trial(" + r + ", " + d + ", " + j + ")", () -> x.trial(r, d, j), () -> m.trial(r, d, j));
         }
-        if (calls < 21) {
+        if (kind < 21) {
             int t = below(m.count(5));
             int d = below(m.count(3));
             int h = below(4);
@@ -114,25 +119,25 @@ final class ModelTest {
             return alike("run(" + t + ", " + d + ", 0, " + h + ", " + w + ")",
                 () -> x.run(t, d, 0, h, w), () -> m.run(t, d, 0, h, w));
         }
-        if (calls < 45) {
+        if (kind < 45) {
             return tell(random.nextInt(5) == 0 ? mutated(cardText()) : cardText(), below(m.count(6)));
         }
-        if (calls < 47) {
+        if (kind < 47) {
             int n = random.nextInt(20) == 0 ? -1 : random.nextInt(3);
             return alike("days(" + n + ")", () -> x.days(n), () -> m.days(n));
         }
-        if (calls < 50) {
+        if (kind < 50) {
             int r = below(m.count(6));
             return alike("protest(" + r + ")", () -> x.protest(r), () -> m.protest(r));
         }
-        if (calls < 53) {
+        if (kind < 53) {
             int p = below(m.count(8));
             int how = random.nextInt(3) > 0 ? 3 : below(4);
             int points = how == 3 ? random.nextInt(105) - 52 : below(1);
             return alike("decide(" + p + ", " + how + ", " + points + ")",
                 () -> x.decide(p, how, points) ? 1 : 0, () -> m.decide(p, how, points) ? 1 : 0);
         }
-        return calls < 78 ? askOfRuns() : askOfAll(seed);
+        return kind < 78 ? askOfRuns() : askOfAll(seed);
     }
 
     private boolean askOfRuns() {
