@@ -212,6 +212,10 @@ final class CardEdgesTest {
         refused("a" + " z".repeat(40) + " ^c;", TOO_MUCH);
         refused("a" + " z".repeat(40) + " ^time;", CANNOT_STAND);
         refused("a ^100000;", CANNOT_STAND);
+        refused("^123456789;", CANNOT_STAND);
+        refused("a ^123456789;", CANNOT_STAND);
+        refused("a;^123456789;", CANNOT_STAND);
+        refused("time ^abcdefghi;", CANNOT_STAND);
         refused("time 5;^abcdefghi;", CANNOT_STAND);
     }
 

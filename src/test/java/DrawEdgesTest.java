@@ -17,6 +17,7 @@ final class DrawEdgesTest {
         fewerThan();
         firstAndLast();
         firstInTheRow();
+        firstThatEndsWell();
         noOrder();
         noneKeepsWhatWasKept();
         listStays();
@@ -224,6 +225,16 @@ final class DrawEdgesTest {
         drawn(listed(0, 0, 0, 0, 1, 1, 2, 2), 5L, 2, 5, 1, 7, 2, 6, 3, 4, 0);
         drawn(listed(0, 0, 0, 0, 1, 1, 1, 1), 5L, 2, 5, 1, 7, 2, 6, 3, 4, 0);
         drawn(listed(0, 1, 2, 3, 0, 1, 2, 3), 7L, 4, 7, 0, 2, 1, 3, 4, 6, 5);
+    }
+
+    /** The row is 0 2 1 by SEED 11: DOG 0 first leads nowhere, so the next one in the row is tried, whoever its HANDLER is. */
+    private static void firstThatEndsWell() {
+        Check.sentence("Of all orders .. the first by places in that row: where the first DOG of the row can't be first");
+        drawn(listed(1, 0, 0), 11L, 1, 0, 2, 1);
+        drawn(listed(1, 0, 0), 11L, 2, 2, 0, 1);
+        drawn(listed(0, 1, 1), 11L, 2, 2, 0, 1);
+        drawn(listed(11, 10, 10), 11L, 2, 2, 0, 1);
+        drawn(listed(10, 11, 11), 11L, 2, 2, 0, 1);
     }
 
     private static void noOrder() {

@@ -3,17 +3,20 @@ import java.lang.reflect.Field;
 import java.lang.reflect.Method;
 import java.lang.reflect.Modifier;
 import java.util.Arrays;
+import java.util.NoSuchElementException;
 import java.util.TreeSet;
 
 /** The public face: every constant, the constructor, every method, and nothing else that is not private. */
 final class FaceTest {
+    /** Behind each: N, it throws NoSuchElementException; I, it throws IllegalArgumentException. */
     private static final String[] METHODS = {
-        "int comes(int)", "int dog(int,int,int)", "long kin(int,int)", "long inbred(int)",
-        "int feed(int,int,int,int,int)", "int rules(int)", "int fault()", "int days(int)", "int trial(int,int,int)",
-        "int run(int,int,int,int,int)", "int card(int,int)", "int told(int,int,int)", "int took(int,int,int)",
-        "int protest(int)", "boolean decide(int,int,int)", "int ladder(int,int,int,int)", "int sum(int,int,int,int)",
-        "void list()", "int enters(int)", "int draw(long,int)", "int drawn(int)", "int packets(int,int,int)",
-        "long scale(int,int,int)", "int luck(int,int,int)", "int count(int)",
+        "int comes(int) N", "int dog(int,int,int)", "long kin(int,int) N", "long inbred(int) N",
+        "int feed(int,int,int,int,int)", "int rules(int) I", "int fault()", "int days(int) I",
+        "int trial(int,int,int) N", "int run(int,int,int,int,int) N", "int card(int,int) N I",
+        "int told(int,int,int) N I", "int took(int,int,int) N I", "int protest(int) N",
+        "boolean decide(int,int,int) N", "int ladder(int,int,int,int) N I", "int sum(int,int,int,int) N I",
+        "void list()", "int enters(int) N", "int draw(long,int) I", "int drawn(int) N", "int packets(int,int,int) I",
+        "long scale(int,int,int) N I", "int luck(int,int,int) N I", "int count(int) N",
     };
 
     public static void main(String[] args) {
@@ -49,6 +52,10 @@ final class FaceTest {
         for (Class<?> p : m.getParameterTypes()) {
             text.append(text.charAt(text.length() - 1) == '(' ? "" : ",").append(p);
         }
-        return text.append(')').toString();
+        text.append(')');
+        for (Class<?> e : m.getExceptionTypes()) {
+            text.append(e == NoSuchElementException.class ? " N" : e == IllegalArgumentException.class ? " I" : " " + e);
+        }
+        return text.toString();
     }
 }

@@ -12,6 +12,7 @@ final class RulesEdgesTest {
         mostParts();
         partsAheadOfClauses();
         names();
+        unlikeNames();
         keywords();
         mostFaults();
         best();
@@ -86,6 +87,31 @@ final class RulesEdgesTest {
         Texts.rulesTaken("part abcdefgh 1;part abcdefgi 1;part bbcdefgh 1;part abcdefg 1;");
         Texts.rulesRefused("part ^1 1;", CANNOT_STAND);
         Texts.rulesRefused("part ^; 1;", CANNOT_STAND);
+    }
+
+    private static void unlikeNames() {
+        Check.sentence("4 what was told already: a PART's NAME: no other one, however near it is");
+        for (char c = 'a'; c <= 'z'; c++) {
+            String name = "";
+            StringBuilder rules = new StringBuilder();
+            StringBuilder card = new StringBuilder();
+            for (int length = 1; length <= 8; length++) {
+                name += c;
+                if (!Texts.isIn(Texts.KEYWORDS, name)) {
+                    rules.append("part ").append(name).append(" 1;");
+                    card.append(name).append(';');
+                }
+            }
+            Texts.cardTaken(rules.toString(), card.toString(), c == 'n' ? 7 : 8, 0);
+        }
+        for (int place = 0; place < 8; place++) {
+            for (char c = 'b'; c <= 'z'; c++) {
+                String name = "aaaaaaaa".substring(0, place) + c + "aaaaaaaa".substring(place + 1);
+                Texts.rulesTaken("part aaaaaaaa 1;part " + name + " 1;tie " + name + ",aaaaaaaa;");
+                Texts.rulesRefused("part aaaaaaaa 1;tie ^" + name + ";", NOT_KNOWN);
+            }
+        }
+        Texts.rulesTaken("part az 1;part za 1;part ba 1;part ab 1;part b 1;part a 1;part bz 1;part z 1;");
     }
 
     private static void keywords() {
@@ -311,6 +337,11 @@ final class RulesEdgesTest {
     private static void theLeast() {
         Check.sentence("FAULTS .. of several the least");
         Texts.rulesRefused("part ^100000 1;", CANNOT_STAND);
+        Texts.rulesRefused("part ^123456789 1;", CANNOT_STAND);
+        Texts.rulesRefused("part a 1;fault ^123456789 off 1;", CANNOT_STAND);
+        Texts.rulesRefused("part a 1;tie ^123456789;", CANNOT_STAND);
+        Texts.rulesRefused(EIGHT + "tie a,b,c,d,e,f,g,h,^123456789;", CANNOT_STAND);
+        Texts.rulesRefused("part a 1;best ^abcdefghi;", CANNOT_STAND);
         Texts.rulesRefused("part a 1 ^100000;", CANNOT_STAND);
         Texts.rulesRefused("part a ^abcdefghi;", CANNOT_STAND);
         Texts.rulesRefused("part a 1;tie ^abcdefghi;", TOO_MUCH);

@@ -9,6 +9,7 @@ final class TextEdgesTest {
         howMany();
         noneCome();
         textOf600();
+        lastByteOf600();
         firstBytes();
         emptyTape();
         rulesOfNoBytes();
@@ -82,6 +83,33 @@ final class TextEdgesTest {
         Texts.rulesRefused("part a 1;out 1" + "+1".repeat(292) + "  ^", CANNOT_STAND);
         Texts.cardTaken("part a 9;fault f off 1;", "a" + " ".repeat(596) + "f ;", 8, 1);
         Texts.cardRefused("part a 9;fault f off 1;", "a" + " ".repeat(596) + "f ^!", CANNOT_STAND);
+    }
+
+    private static void lastByteOf600() {
+        Check.sentence("TEXTS, at most 600 bytes: what ends with the last of them");
+        String head = "part a 9;fault f off 1;" + " ".repeat(560);
+        for (String word : Texts.KEYWORDS) {
+            for (int length = 1; length <= word.length(); length++) {
+                String end = " ".repeat(17 - length) + "^" + word.substring(0, length);
+                boolean begins = Texts.isIn(new String[] {"fault", "out", "tie", "best", "limit"}, word.substring(0, length));
+                if (!begins) {
+                    Texts.rulesRefused(head + end, CANNOT_STAND);
+                } else {
+                    Texts.rulesRefused(head + end.replace("^", "") + "^", CANNOT_STAND);
+                }
+            }
+        }
+        Texts.rulesRefused("part a 9;" + " ".repeat(584) + "limit 9^", CANNOT_STAND);
+        Texts.rulesRefused("part a 9;out" + " ".repeat(582) + "^123456", TOO_MUCH);
+        Texts.rulesRefused("part a 9;out" + " ".repeat(583) + "12345^", CANNOT_STAND);
+        Texts.rulesRefused("part a 9;out" + " ".repeat(584) + "^limi", Texts.NOT_KNOWN);
+        Texts.rulesRefused("part a 9;out" + " ".repeat(584) + "hour^", CANNOT_STAND);
+        Texts.rulesRefused("part a 9;out" + " ".repeat(587) + "(^", CANNOT_STAND);
+        Texts.cardRefused("part a 9;", " ".repeat(597) + "^tim", Texts.NOT_KNOWN);
+        Texts.cardRefused("part a 9;", " ".repeat(596) + "time^", CANNOT_STAND);
+        Texts.cardRefused("part a 9;", " ".repeat(599) + "a^", CANNOT_STAND);
+        Texts.cardTaken("part a 9;", " ".repeat(598) + "a;", 9, 0);
+        Texts.cardTaken("part a 9;", "a;" + " ".repeat(590) + "retired;", 9, 0);
     }
 
     private static void firstBytes() {
